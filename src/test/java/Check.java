@@ -1,0 +1,71 @@
+/** Counts the wrong answers of one test; each test's main method ends with finish(). */
+final class Check {
+    private static int asked = 0;
+    private static int wrong = 0;
+
+    private Check() {
+    }
+
+    /** A call of the face. */
+    interface Call {
+        long ask();
+    }
+
+    static void equal(String what, long got, long due) {
+        asked++;
+        if (got != due) {
+            wrong++;
+            System.out.println(what + " answered " + got + ", due is " + due);
+        }
+    }
+
+    static void same(String what, Object got, Object due) {
+        asked++;
+        if (!due.equals(got)) {
+            wrong++;
+            System.out.println(what + " answered " + got + ", due is " + due);
+        }
+    }
+
+    static void that(String what, boolean holds) {
+        asked++;
+        if (!holds) {
+            wrong++;
+            System.out.println("does not hold: " + what);
+        }
+    }
+
+    static void noIndex(String what, Call call) {
+        thrown(what, call, IndexOutOfBoundsException.class);
+    }
+
+    static void noArgument(String what, Call call) {
+        thrown(what, call, IllegalArgumentException.class);
+    }
+
+    static void noState(String what, Call call) {
+        thrown(what, call, IllegalStateException.class);
+    }
+
+    private static void thrown(String what, Call call, Class<? extends Exception> due) {
+        asked++;
+        String got;
+        try {
+            got = Long.toString(call.ask());
+        } catch (RuntimeException e) {
+            if (e.getClass() == due) {
+                return;
+            }
+            got = e.getClass().getName();
+        }
+        wrong++;
+        System.out.println(what + " answered " + got + ", due is " + due.getSimpleName());
+    }
+
+    static void finish(String test) {
+        System.out.println(test + ": " + asked + " answers looked at, " + wrong + " wrong");
+        if (wrong != 0 || asked == 0) {
+            System.exit(1);
+        }
+    }
+}
