@@ -1232,11 +1232,11 @@ public final class BitumenNeedle {
 
         private boolean fillSlot(char sign) {
             int kind = slotKind();
-            if (kind == '*' || kind == '/' || kind == 'B' && sign == '-') {
+            if (kind == '*' || kind == '/' || (kind == 'B' && sign == '-')) {
                 return fillWithSign(kind, sign);
             }
             // Behind a 0 no figure may stand, and behind a "-" neither.
-            if (sign < '0' || sign > '9' || taken > 0 && values[slot] <= 0) {
+            if (sign < '0' || sign > '9' || (taken > 0 && values[slot] <= 0)) {
                 return false;
             }
             int value = values[slot] * 10 + (sign - '0');
@@ -1249,7 +1249,7 @@ public final class BitumenNeedle {
         }
 
         private boolean fillWithSign(int kind, int sign) {
-            if (taken > 0 || kind != 'B' && sign != kind) {
+            if (taken > 0 || (kind != 'B' && sign != kind)) {
                 return false;
             }
             values[slot] = NONE;
@@ -1263,7 +1263,7 @@ public final class BitumenNeedle {
             }
             int value = values[slot];
             int kind = slotKind();
-            return value == NONE || value >= least(kind) && value <= most(kind);
+            return value == NONE || (value >= least(kind) && value <= most(kind));
         }
 
         /** Whether a number, with none or more figures behind it, is in a range below 1000. */

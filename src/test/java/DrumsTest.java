@@ -128,6 +128,7 @@ final class DrumsTest {
         x.pass(40);
         x.sink(1, 1, 100, 5);
         x.sink(1, 1, 60, 7);
+        x.ring(0);
         Check.noIndex("5: -1", () -> x.toss(-1));
         Check.noIndex("5: 3", () -> x.toss(3));
         Check.equal("5: without readings", x.toss(0), 0);
@@ -144,9 +145,17 @@ final class DrumsTest {
         for (int what = 0; what < 9; what++) {
             Check.equal("5: a new one is new, " + what, x.sampleOf(1, what), due[what]);
         }
-        x.undo();
-        x.undo();
+        x.ring(1);
+        x.toss(1);
+        x.sample(0);
+        Check.equal("5: nothing of one thrown away is left", x.sampleOf(1, 7), -1);
+        Check.equal("5: its hardness neither", x.sampleOf(1, 1), 50);
+        for (int i = 0; i < 5; i++) {
+            x.undo();
+        }
         Check.equal("5: undone", x.sampleOf(0, 4), 2);
+        Check.equal("5: undone, its drum", x.sampleOf(0, 0), 1);
+        Check.equal("5: undone, its hardness", x.sampleOf(0, 1), 3);
         Check.equal("5: undone wholly", x.reading(0, 1, 3), 7);
     }
 

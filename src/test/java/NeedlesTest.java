@@ -11,6 +11,7 @@ final class NeedlesTest {
         promise10();
         promise11();
         promise12();
+        promise12Classes();
         promise12Refusals();
         promise12Index();
         promise13();
@@ -223,6 +224,36 @@ final class NeedlesTest {
         Check.equal("12: still sold", x.noSale(0), 15);
         x.undo();
         Check.equal("12: undone", x.noSale(0), 0);
+    }
+
+    private static void promise12Classes() {
+        BitumenNeedle x = read(300, 0, 1);
+        Check.equal("12: class 125 / 20", x.sell(0), 6);
+        BitumenNeedle y = warmed(64, 2);
+        for (int i = 0; i < 6; i++) {
+            y.sink(0, 0, 100, 5);
+        }
+        for (int i = 0; i < 3; i++) {
+            y.sink(1, 1, 100, 5);
+        }
+        y.bath(0, -1);
+        Check.equal("12: 300 + 180 - 30", y.ring(0), 450);
+        Check.equal("12: 2 + 0 - 8", y.drumOf(0, 6), 994);
+        Check.equal("12: the second way", y.drumOf(0, 7), 994);
+        Check.equal("12: class 28 / 20", y.sell(0), 1);
+        BitumenNeedle z = new BitumenNeedle();
+        z.drum(100);
+        TextsTest.type(z, "s0;s0;b01;b11;+60").obey();
+        TextsTest.type(z, "n00*100/5;n00*100/5;n00*100/5;n11*100/5").obey();
+        TextsTest.type(z, "n11*100/5;n11*100/5;b0-;o0;$0").obey();
+        Check.equal("12: sold", z.drumOf(0, 8), 2);
+        z.age(30);
+        for (int i = 0; i < 5; i++) {
+            z.undo();
+        }
+        z.drum(30);
+        Check.equal("12: another drum with its number is not sold", z.drumOf(0, 8), -1);
+        Check.equal("12: nor old", z.drumOf(0, 1), 0);
     }
 
     private static void promise12Refusals() {

@@ -105,6 +105,7 @@ final class WouldBeTest {
         Check.noArgument("31: weight 201", () -> x.secondsTo(0, 0, 201, 5));
         Check.noArgument("31: depth 0", () -> x.secondsTo(0, 0, 100, 0));
         Check.noArgument("31: depth 401", () -> x.secondsTo(0, 0, 100, 401));
+        Check.equal("31: 1 by one second", x.secondsTo(0, 0, 100, 1), 1);
         Check.equal("31: 9 by one second", x.secondsTo(0, 0, 100, 9), 1);
         Check.equal("31: 10 by two", x.secondsTo(0, 0, 100, 10), 2);
         Check.equal("31: 18 by two", x.secondsTo(0, 0, 100, 18), 2);
