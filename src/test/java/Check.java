@@ -2,6 +2,7 @@
 final class Check {
     private static int asked = 0;
     private static int wrong = 0;
+    private static String about = "";
 
     private Check() {
     }
@@ -11,27 +12,34 @@ final class Check {
         long ask();
     }
 
+    /** What the answers that are looked at from here on are about. */
+    static void about(String what) {
+        about = what;
+    }
+
+    /** How many answers have been looked at so far. */
+    static int asked() {
+        return asked;
+    }
+
     static void equal(String what, long got, long due) {
         asked++;
         if (got != due) {
-            wrong++;
-            System.out.println(what + " answered " + got + ", due is " + due);
+            isWrong(what + " answered " + got + ", due is " + due);
         }
     }
 
     static void same(String what, Object got, Object due) {
         asked++;
         if (!due.equals(got)) {
-            wrong++;
-            System.out.println(what + " answered " + got + ", due is " + due);
+            isWrong(what + " answered " + got + ", due is " + due);
         }
     }
 
     static void that(String what, boolean holds) {
         asked++;
         if (!holds) {
-            wrong++;
-            System.out.println("does not hold: " + what);
+            isWrong("does not hold: " + what);
         }
     }
 
@@ -58,8 +66,12 @@ final class Check {
             }
             got = e.getClass().getName();
         }
+        isWrong(what + " answered " + got + ", due is " + due.getSimpleName());
+    }
+
+    private static void isWrong(String told) {
         wrong++;
-        System.out.println(what + " answered " + got + ", due is " + due.getSimpleName());
+        System.out.println(about + told);
     }
 
     static void finish(String test) {

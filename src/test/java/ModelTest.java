@@ -7,8 +7,11 @@ import java.util.TreeMap;
 
 /** Long runs of calls, always the same ones, on the class and on the model; all answers and digests must agree. */
 final class ModelTest {
-    private static final int RUNS = 600;
-    private static final int CALLS = 250;
+    private static final int RUNS = 1500;
+    private static final int STEPS = 250;
+    // An object is good for so many calls, and no step makes more than so many.
+    private static final int USE = 512;
+    private static final int MOST_OF_STEP = 150;
     private static final String[] PARTS = {"s#d", "b#s#b", "b#s-", "n#n#s*100/5", "n#n#s*100/5", "n#n#s*#w/#t",
         "o#s", "$#d", "+#m", "+#m"};
     private static final String SIGNS = "sbno$+;-*/0123456789x";
@@ -21,6 +24,7 @@ final class ModelTest {
     private long seed = 20261119L;
     private final StringBuilder run = new StringBuilder();
     private boolean agree = true;
+    private int used;
 
     private ModelTest() {
     }
@@ -35,11 +39,13 @@ final class ModelTest {
             real = new BitumenNeedle();
             model = new Model();
             run.setLength(0);
+            used = 0;
             prepare(number);
-            for (int call = 0; call < CALLS && agree; call++) {
+            for (int step = 0; step < STEPS && used <= USE - MOST_OF_STEP && agree; step++) {
                 anyCall();
                 compareAll("digest");
             }
+            Check.that("no object is used for more than 512 calls, but for " + used, used <= USE);
         }
         for (String due : new String[] {"sell 0", "sell 1", "sell 2", "sell 3", "noSale 0", "noSale 9", "noSale 10",
             "noSale 11", "noSale 12", "noSale 15", "noSink 0", "noSink 1", "noSink 2", "noSink 3", "noSink 4",
@@ -165,6 +171,7 @@ final class ModelTest {
     }
 
     private String same(String name, int... arguments) {
+        used++;
         String got = answer(classCalls.get(name), real, arguments);
         String due = answer(modelCalls.get(name), model, arguments);
         String call = name + Arrays.toString(arguments);
@@ -178,6 +185,7 @@ final class ModelTest {
     }
 
     private void compareAll(String name) {
+        used++;
         String got = answer(classCalls.get(name), real);
         String due = answer(modelCalls.get(name), model);
         if (agree) {
