@@ -56,6 +56,19 @@ final class DrumsEdges {
         for (int what = 0; what < 9; what++) {
             Edge.is("drumOf(0, " + what + ")", x.drumOf(0, what), due[what]);
         }
+        BitumenNeedle again = new BitumenNeedle();
+        again.keep();
+        Edge.type(again, "s0").clearBuffer();
+        again.drum(100);
+        Edge.type(again, "s0;s0;b01;b11;+60;n00*100/5;n00*100/5;n00*100/5").obey();
+        Edge.type(again, "n11*100/5;n11*100/5;n11*100/5;b0-;o0;$0").obey();
+        again.age(99);
+        Edge.is("a drum that is old and sold", again.drumOf(0, 1) + again.drumOf(0, 8), 101);
+        again.restore();
+        again.drum(120);
+        for (int what = 0; what < 9; what++) {
+            Edge.is("when one like that was there, drumOf(0, " + what + ")", again.drumOf(0, what), due[what]);
+        }
         Edge.says(2, "Undoable.");
         Edge.undoable(x, "drum(30)", () -> x.drum(30));
         Edge.noIndex(x, "drumOf(1, 0) behind undo", () -> x.drumOf(1, 0));
@@ -136,6 +149,17 @@ final class DrumsEdges {
         int[] due = {1, 3, 200, -1, 0, -1, 5, -1, 0};
         for (int what = 0; what < 9; what++) {
             Edge.is("sampleOf(0, " + what + ")", x.sampleOf(0, what), due[what]);
+        }
+        BitumenNeedle again = Edge.warmed(20, 3);
+        again.drum(300);
+        Edge.sink(again, 3, 0, 2);
+        again.bath(2, -1);
+        again.ring(2);
+        again.bath(2, 2);
+        again.toss(2);
+        again.sample(1);
+        for (int what = 0; what < 9; what++) {
+            Edge.is("when one like that was there, sampleOf(2, " + what + ")", again.sampleOf(2, what), due[what]);
         }
         Edge.says(4, "Undoable.");
         Edge.undoable(x, "sample(0)", () -> x.sample(0));

@@ -115,6 +115,14 @@ final class SaleTermsEdges {
         Edge.noState(y, "sell(0) with one needle", () -> y.sell(0));
         Edge.sink(y, 1, 2, 2);
         Edge.is("two needles again, of three samples", y.noSale(0), 11);
+        for (int needle = 0; needle < 3; needle++) {
+            BitumenNeedle one = Edge.warmed(100, 2);
+            Edge.sink(one, 3, needle, 0);
+            Edge.sink(one, 3, needle, 1);
+            Edge.is("needle " + needle + " alone", one.noSale(0), 10);
+            Edge.sink(one, 1, (needle + 1) % 3, 1);
+            Edge.is("and another", one.noSale(0), 11);
+        }
         Edge.says(FIRST, "some sample of it has a softening (else reason 11),");
         BitumenNeedle z = Edge.readTwice(100);
         z.sample(0);
@@ -171,6 +179,8 @@ final class SaleTermsEdges {
         indexIs(64, 30, 465, 3 + 1);
         indexIs(67, 32, 453, 3 + 0);
         indexIs(72, 34, 441, 3 - 1);
+        indexIs(80, 37, 429, 3 - 3);
+        indexIs(58, 26, 489, 2 + 3);
         indexIs(100, 44, 405, 4 - 5);
         indexIs(125, 55, 381, 5 - 7);
         indexIs(300, 125, 321, 12 - 13);
@@ -211,8 +221,24 @@ final class SaleTermsEdges {
         Edge.is("the first way", x.drumOf(0, 6), 4 - 4 - 8 + 1000);
         Edge.is("the second way", x.drumOf(0, 7), 4 - 4 - 8 + 1000);
         x.set(1, 1);
+        indexesAre(24, 0, 10, 777, 1 + 32);
+        indexesAre(22, 1, 9, 825, 0 + 37);
         Edge.is("the first way when all lie apart", x.drumOf(0, 6), -1);
         Edge.is("the second way when all lie apart", x.drumOf(0, 7), -1);
+    }
+
+    /** Both ways of the index of a drum whose only sample is read with one needle, and two times with needle 0. */
+    private static void indexesAre(int softness, int first, int penetration, int softening, int due) {
+        BitumenNeedle x = Edge.warmed(softness, 1);
+        Edge.sink(x, 1, first, 0);
+        Edge.sink(x, 2, 0, 0);
+        x.bath(0, -1);
+        x.ring(0);
+        x.set(2, 0);
+        Edge.is("mean penetration of softness " + softness, x.drumOf(0, 4), penetration);
+        Edge.is("mean softening of softness " + softness, x.drumOf(0, 5), softening);
+        Edge.is("the first way of softness " + softness, x.drumOf(0, 6), 1000 + due);
+        Edge.is("the second way of softness " + softness, x.drumOf(0, 7), 1000 + due);
     }
 
     private static void classes() {

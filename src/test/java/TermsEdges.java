@@ -168,7 +168,7 @@ final class TermsEdges {
     private static void hardness() {
         Edge.says(FIRST, "The hardness of a drum is 1000 divided by its softness, and its age divided by 10, together.");
         int[][] dues = {{20, 0, 50}, {20, 9, 50}, {20, 10, 51}, {20, 19, 51}, {20, 999, 149}, {33, 0, 30}, {34, 0, 29},
-            {200, 0, 5}, {201, 0, 4}, {250, 0, 4}, {251, 0, 3}, {300, 0, 3}, {300, 99, 12}, {300, 999, 102}};
+            {77, 0, 12}, {91, 0, 10}, {143, 0, 6}, {200, 0, 5}, {201, 0, 4}, {250, 0, 4}, {251, 0, 3}, {300, 0, 3}, {300, 99, 12}, {300, 999, 102}};
         for (int[] due : dues) {
             BitumenNeedle x = Edge.drums(due[0]);
             for (int left = due[1]; left > 0; left -= 99) {
@@ -503,6 +503,31 @@ final class TermsEdges {
         Edge.sink(z, 1, 0, 0);
         Edge.sink(z, 1, 1, 0);
         Edge.is("45, 45, 45 with 0", z.sampleOf(0, 5), 45);
+        BitumenNeedle zero = threeOfNothing();
+        zero.set(1, 0);
+        Edge.is("0, 0, 0 with 0", zero.sampleOf(0, 5), 0);
+        Edge.is("and why it has none", zero.sampleOf(0, 6), 0);
+        Edge.is("samples with a penetration", zero.count(6), 1);
+        Edge.is("the mean penetration", zero.drumOf(0, 4), 0);
+        zero.bath(0, -1);
+        zero.ring(0);
+        Edge.is("the index, 0 and 43, less 8", zero.drumOf(0, 6), 1035);
+        Edge.is("the index, the second way", zero.drumOf(0, 7), 1035);
+    }
+
+    /** Three cold samples; each needle is worn by another one before it sinks into the first, by nothing. */
+    private static BitumenNeedle threeOfNothing() {
+        BitumenNeedle x = Edge.samples(20, 3);
+        x.warm(0, 0);
+        for (int sample = 0; sample < 3; sample++) {
+            x.bath(sample, 0);
+        }
+        x.pass(99);
+        for (int needle = 0; needle < 3; needle++) {
+            Edge.sink(x, 4, needle, 1 + needle / 2);
+            Edge.is("4 less a wear of 4", x.sink(needle, 0, 100, 5), 0);
+        }
+        return x;
     }
 
     private static void penetrationRefused() {

@@ -89,6 +89,10 @@ final class TextTermsEdges {
         onlyBehind("o7", ";");
         Edge.is("obey of b0-;o0", Edge.type(y, "b0-;o0").obey(), 2);
         Edge.is("the softening", y.sampleOf(0, 7), 410);
+        BitumenNeedle read = Edge.readTwice(100);
+        Edge.is("obey of b1-;o1", Edge.type(read, "b1-;o1").obey(), 2);
+        Edge.is("drums that are sold by it", read.count(4), 0);
+        Edge.is("minutes that pass by it", read.count(5), 60);
         Edge.says(FIRST, "\"$\" and a drum (it is sold);");
         onlyBehind("$", "012345");
         onlyBehind("$0", ";");
@@ -96,6 +100,11 @@ final class TextTermsEdges {
         BitumenNeedle z = Edge.sellable(100);
         Edge.is("obey of $0", Edge.type(z, "$0").obey(), 1);
         Edge.is("the class", z.drumOf(0, 8), 2);
+        BitumenNeedle second = Edge.drums(20, 100);
+        Edge.type(second, "s1;s1;b01;b11;+60;n00*100/5;n00*100/5;n00*100/5").obey();
+        Edge.type(second, "n11*100/5;n11*100/5;n11*100/5;b0-;o0;$1").obey();
+        Edge.is("the class of the second drum", second.drumOf(1, 8), 2);
+        Edge.is("minutes that pass by it", second.count(5), 60);
     }
 
     /** Whether a number of that range begins with these figures. */

@@ -93,6 +93,14 @@ final class UndoEdges {
         x.restore();
         Edge.is("the softening, at the second time", x.sampleOf(0, 7), -1);
         Edge.is("the age, at the second time", x.drumOf(0, 1), 0);
+        BitumenNeedle other = Edge.drums(20);
+        other.keep();
+        other.undo();
+        other.drum(300);
+        other.restore();
+        Edge.is("the softness, when another drum was there", other.drumOf(0, 0), 20);
+        other.undo();
+        Edge.is("the softness behind undo", other.drumOf(0, 0), 300);
         Edge.says(21, "Undoable.");
         BitumenNeedle y = Edge.samples(100, 2);
         y.keep();

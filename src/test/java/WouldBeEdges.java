@@ -422,6 +422,7 @@ final class WouldBeEdges {
         Edge.says(34, "Returns how many samples have a penetration.");
         BitumenNeedle x = Edge.warmed(100, 8);
         Check.that("none of 8", x.readShare() == 0.0);
+        Check.that("none of 1", Edge.samples(100, 1).readShare() == 0.0);
         x.sink(0, 0, 100, 5);
         x.sink(0, 0, 100, 5);
         Check.that("none of 8, with two readings", x.readShare() == 0.0);
