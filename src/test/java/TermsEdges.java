@@ -317,6 +317,7 @@ final class TermsEdges {
         Edge.is("150 by 150", old.ifSunk(0, 0, 150, 1), 1);
         Edge.says(FIRST, "times (100 and a fifth of what the degree is above 250, together, but at least 10), divided by"
                 + " 100;");
+        // No degree is below 0, so that 50 is the least that comes.
         int[][] dues = {{0, 50}, {4, 50}, {5, 51}, {245, 99}, {249, 99}, {250, 100}, {254, 100}, {255, 101}, {259, 101},
             {260, 102}, {900, 230}};
         for (int[] due : dues) {
