@@ -1,12 +1,22 @@
+import java.io.IOException;
 import java.lang.reflect.Constructor;
 import java.lang.reflect.Field;
 import java.lang.reflect.Method;
 import java.lang.reflect.Modifier;
+import java.nio.file.Files;
+import java.nio.file.Path;
 import java.util.ArrayList;
 import java.util.List;
+import java.util.regex.Matcher;
+import java.util.regex.Pattern;
 
-/** The class has the face of the document and no other. */
+/** The class has the face of the document and no other; run from the project's folder. */
 final class FaceTest {
+    private static final Path DOCUMENT = Path.of("../shared/DOC.md");
+    private static final Path SOURCE = Path.of("src/main/java/BitumenNeedle.java");
+    private static final Pattern BLOCK = Pattern.compile("(?s)## The public face\\s+```java\n(.*?)```");
+    private static final Pattern PROMISED = Pattern.compile("(?m)^## Promise \\d+: .*\n\\s*`([^`]*)`");
+    private static final Pattern AHEAD = Pattern.compile("Ahead of the calls (`.*`) the interface says: (----.*)\\.\n");
     private static final String[] FACE = {
         "public int drum(int) IllegalArgumentException IllegalStateException",
         "public int age(int) IllegalArgumentException",
@@ -47,7 +57,7 @@ final class FaceTest {
     private FaceTest() {
     }
 
-    public static void main(String[] args) {
+    public static void main(String[] args) throws IOException {
         List<String> due = new ArrayList<>(List.of(FACE));
         List<String> hidden = new ArrayList<>();
         for (Method method : BitumenNeedle.class.getDeclaredMethods()) {
@@ -76,7 +86,57 @@ final class FaceTest {
             Check.that(inside + " is static and not public",
                     Modifier.isStatic(modifiers) && !Modifier.isPublic(modifiers) && !Modifier.isProtected(modifiers));
         }
+        asWritten(Files.readString(DOCUMENT), Files.readString(SOURCE).replaceAll("[ \n]+", " "));
         Check.finish("FaceTest");
+    }
+
+    /** The lines of the document's code block stand in the class, in their order, names of parameters included. */
+    private static void asWritten(String document, String source) {
+        Matcher block = BLOCK.matcher(document);
+        if (!block.find()) {
+            Check.that("the document has its code block", false);
+            return;
+        }
+        List<String> signatures = new ArrayList<>();
+        int behind = 0;
+        for (String line : block.group(1).lines().map(String::trim).filter(l -> l.startsWith("public ")).toList()) {
+            String due = line.endsWith(";") && !line.contains("=") ? line.replaceAll(";$", " {") : line;
+            int at = source.indexOf(due, behind);
+            Check.that("in the class, in its place: " + line, at >= 0);
+            behind = Math.max(at, behind);
+            if (line.contains("(")) {
+                signatures.add(line.replaceAll("^public |;$", ""));
+            }
+        }
+        Check.equal("signatures in the code block", signatures.size(), FACE.length + 1);
+        promised(document, signatures);
+        headings(document, source);
+    }
+
+    private static void promised(String document, List<String> signatures) {
+        Matcher promise = PROMISED.matcher(document);
+        List<String> found = new ArrayList<>();
+        while (promise.find()) {
+            found.add(promise.group(1));
+        }
+        Check.same("the signatures ahead of the promises", found, signatures);
+    }
+
+    private static void headings(String document, String source) {
+        Matcher ahead = AHEAD.matcher(document);
+        int found = 0;
+        while (ahead.find()) {
+            found++;
+            int heading = source.indexOf("// " + ahead.group(2) + " ");
+            int next = source.indexOf("// ----", heading + 1);
+            Check.that("a heading of the class: " + ahead.group(2), heading >= 0);
+            for (String name : ahead.group(1).replaceAll("[` ]", "").split(",")) {
+                int call = Math.max(source.indexOf("public int " + name + "("), Math.max(
+                        source.indexOf("public double " + name + "("), source.indexOf("public long " + name + "(")));
+                Check.that(name + " stands below " + ahead.group(2), call > heading && call < next);
+            }
+        }
+        Check.equal("headings that the document tells", found, 6);
     }
 
     private static void fields() {
